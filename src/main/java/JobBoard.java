@@ -461,7 +461,7 @@ public final class JobBoard {
     /** The jobs, and every change of state that concerns more than one of them. */
     private static final class Roster {
         private final Job[] jobs;
-        private int size;
+        int size;
         private int stamps;
 
         Roster() {
@@ -628,7 +628,7 @@ public final class JobBoard {
      */
     private static final class Journal {
         private final Roster[] pages;
-        private int unflushed;
+        int unflushed;
 
         Journal() {
             pages = new Roster[MAX_UNFLUSHED];

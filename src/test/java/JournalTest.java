@@ -9,7 +9,9 @@ public final class JournalTest {
         crashKeepsTheFirst();
         keepOutOfRange();
         lostJobsGiveTheirNumbersBack();
+        numbersGivenAgainStartAnew();
         lostChangesOfEveryKind();
+        lostDueTimeComesBack();
         lostTickKeepsTime();
         reservedBecomeReadyByNumber();
         dueJobsBecomeReadyAfterTheReserved();
@@ -140,6 +142,55 @@ public final class JournalTest {
         CHECKS.due("not SEALED", x.seal(2), JobBoard.OK);
         CHECKS.due("number 3", x.submit(2, 0, 0, 0, 1), 3);
         CHECKS.line("the queues are the new ones", x, 2, 2, 3);
+    }
+
+    private static void numbersGivenAgainStartAnew() {
+        JobBoard x = new JobBoard(0);
+        x.hold(0, 0);
+        x.hold(0, 0);
+        x.join(0, 1);
+        x.submit(0, 0, 0, 5, 50);
+        CHECKS.due("all but the first are lost", x.crash(1), 3);
+        CHECKS.due("number 1 again", x.hold(0, 0), 1);
+        CHECKS.due("no members of the lost one", x.due(1), 0);
+        CHECKS.due("number 2 again", x.hold(0, 0), 2);
+        x.seal(2);
+        x.take(0, 5);
+        x.fail(0);
+        CHECKS.due("not the limit of the lost one", x.state(2), JobBoard.DEAD);
+    }
+
+    private static void lostDueTimeComesBack() {
+        JobBoard x = new JobBoard(0);
+        x.submit(0, 0, 0, 3, 30);
+        x.take(0, 100);
+        x.fail(0);
+        x.flush();
+        x.kill(0);
+        x.revive(0);
+        x.take(0, 100);
+        x.fail(0);
+        x.tick(3);
+        CHECKS.due("four are lost", x.crash(0), 4);
+        CHECKS.due("RETRYING as it was flushed", x.due(0), 30);
+        x.submit(1, 0, 0, 0, 1);
+        x.flush();
+        x.tick(27);
+        x.take(0, 90);
+        CHECKS.due("its deadline", x.due(0), 120);
+        CHECKS.due("the take is lost", x.crash(1), 1);
+        CHECKS.due("the tick is not", x.state(0), JobBoard.READY);
+        JobBoard y = new JobBoard(0);
+        y.submit(0, 0, 50, 3, 40);
+        y.flush();
+        y.tick(49);
+        y.kill(0);
+        y.revive(0);
+        y.take(0, 7);
+        CHECKS.due("another deadline", y.due(0), 56);
+        CHECKS.due("three are lost", y.crash(0), 3);
+        CHECKS.due("SCHEDULED with its own due time", y.due(0), 50);
+        CHECKS.due("READY then", y.tick(1), 1);
     }
 
     private static void lostChangesOfEveryKind() {
