@@ -15,6 +15,10 @@ public final class CallbackTest {
         deadMemberKeepsItsPlace();
         callbackOfACallback();
         callbacksOfEachOther();
+        callbackOfAllOtherJobs();
+        sealAfterTheLastMember();
+        ackOfAJobWithoutACallback();
+        failedMemberStillCounts();
         CHECKS.end();
     }
 
@@ -235,5 +239,66 @@ public final class CallbackTest {
         x.seal(0);
         x.seal(1);
         CHECKS.due("both are HELD", x.count(JobBoard.HELD), 2);
+    }
+
+    /** One callback with 39 members, the most that a board has room for. */
+    private static void callbackOfAllOtherJobs() {
+        JobBoard x = new JobBoard(0);
+        int callback = x.hold(3, 0);
+        Moves.submitMany(x, 0, 39);
+        for (int job = 1; job <= 39; job++) {
+            CHECKS.due("join(" + job + ", 0)", x.join(job, callback), JobBoard.OK);
+        }
+        CHECKS.due("members", x.due(callback), 39);
+        x.seal(callback);
+        CHECKS.due("38 are served", Moves.serveMany(x, 38), 38);
+        CHECKS.due("one is left", x.due(callback), 1);
+        CHECKS.due("HELD", x.state(callback), JobBoard.HELD);
+        CHECKS.due("the last one", Moves.serve(x), 39);
+        CHECKS.due("READY", x.state(callback), JobBoard.READY);
+    }
+
+    /** "READY if it has no members": with one it stays HELD, and so it does at each ack but the last. */
+    private static void sealAfterTheLastMember() {
+        for (int acked = 0; acked <= 2; acked++) {
+            JobBoard x = new JobBoard(0);
+            int callback = x.hold(3, 0);
+            Moves.submitMany(x, 0, 2);
+            x.join(1, callback);
+            x.join(2, callback);
+            CHECKS.due("served", Moves.serveMany(x, acked), acked);
+            CHECKS.due("members", x.due(callback), 2 - acked);
+            CHECKS.due("seal", x.seal(callback), JobBoard.OK);
+            CHECKS.due("its state", x.state(callback), acked == 2 ? JobBoard.READY : JobBoard.HELD);
+        }
+    }
+
+    /** "If it has a callback": without one no other job changes. */
+    private static void ackOfAJobWithoutACallback() {
+        JobBoard x = new JobBoard(0);
+        int callback = x.hold(3, 0);
+        Moves.submitMany(x, 0, 2);
+        x.join(2, callback);
+        x.seal(callback);
+        CHECKS.due("ack", Moves.serve(x), 1);
+        CHECKS.due("the callback keeps its member", x.due(callback), 1);
+        CHECKS.due("the member", x.state(2), JobBoard.READY);
+    }
+
+    /** A member leaves its callback by ack alone, not by a failure that is retried or not. */
+    private static void failedMemberStillCounts() {
+        JobBoard x = new JobBoard(0);
+        int callback = x.hold(3, 0);
+        x.submit(0, 0, 0, 1, 1);
+        x.join(1, callback);
+        x.seal(callback);
+        for (int failures = 1; failures <= 2; failures++) {
+            x.take(0, 50);
+            x.fail(0);
+            CHECKS.due("members after failure " + failures, x.due(callback), 1);
+            x.tick(1);
+        }
+        CHECKS.due("the member is DEAD", x.state(1), JobBoard.DEAD);
+        CHECKS.due("the callback is HELD", x.state(callback), JobBoard.HELD);
     }
 }

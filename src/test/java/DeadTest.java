@@ -11,6 +11,9 @@ public final class DeadTest {
         ninthDeadPushesOutTheFirst();
         revivedAndKilledAgainIsTheNewest();
         failedToo();
+        reviveOnAFullBoard();
+        reviveMakesRoomAmongTheDead();
+        killedJobIsNotDueAnyMore();
         CHECKS.end();
     }
 
@@ -185,5 +188,41 @@ public final class DeadTest {
         CHECKS.due("its failures can be read", x.failures(0), 1);
         CHECKS.due("it has no due", x.due(0), JobBoard.NONE);
         CHECKS.due("8 are DEAD", x.count(JobBoard.DEAD), 8);
+    }
+
+    /** A revive makes no job: a full board does not hinder it. */
+    private static void reviveOnAFullBoard() {
+        JobBoard x = new JobBoard(0);
+        Moves.submitMany(x, 0, 40);
+        x.kill(17);
+        CHECKS.due("revive", x.revive(17), JobBoard.OK);
+        CHECKS.due("READY", x.state(17), JobBoard.READY);
+        CHECKS.due("the last of the line", x.line(0, 39), 17);
+    }
+
+    /** With one of 8 DEAD jobs revived, the next to die has 7 others beside it. */
+    private static void reviveMakesRoomAmongTheDead() {
+        JobBoard x = new JobBoard(0);
+        Moves.holdAndKill(x, 8);
+        CHECKS.due("revive", x.revive(3), JobBoard.OK);
+        Moves.holdAndKill(x, 1);
+        CHECKS.due("nobody is GONE", x.count(JobBoard.GONE), 0);
+        CHECKS.due("8 are DEAD", x.count(JobBoard.DEAD), 8);
+        CHECKS.due("the revived dies again", x.kill(3), JobBoard.OK);
+        CHECKS.due("the first is GONE", x.state(0), JobBoard.GONE);
+        CHECKS.due("it is not", x.state(3), JobBoard.DEAD);
+    }
+
+    /** A SCHEDULED job that was killed and revived is READY at once; its due time has no power any more. */
+    private static void killedJobIsNotDueAnyMore() {
+        JobBoard x = new JobBoard(0);
+        x.submit(0, 0, 5, 0, 1);
+        x.kill(0);
+        x.revive(0);
+        CHECKS.due("READY", x.state(0), JobBoard.READY);
+        CHECKS.due("no due", x.due(0), JobBoard.NONE);
+        CHECKS.due("the old due time", x.tick(5), 0);
+        x.take(0, 50);
+        CHECKS.due("RESERVED since: nothing is due", x.tick(5), 0);
     }
 }

@@ -20,6 +20,14 @@ public final class JournalTest {
         startsStay();
         weightsStay();
         crashIsFlushed();
+        keepNextToTheRecords();
+        belowZeroCountsAsZero();
+        backToAnEmptyBoard();
+        crashOfAFullBoard();
+        dueAtTheCrash();
+        crashWithoutRecords();
+        emptiedBucketsAreFull();
+        sixReservedAtTheCrash();
         CHECKS.end();
     }
 
@@ -347,5 +355,138 @@ public final class JournalTest {
         x.kill(1);
         CHECKS.due("the kill is lost", x.crash(0), 1);
         CHECKS.line("what the first crash did stays", x, 0, 1, 0);
+    }
+
+    /** "All but the first keep": one fewer than there are, as many, and one more. */
+    private static void keepNextToTheRecords() {
+        int[] lost = {1, 0, 0};
+        for (int i = 0; i < 3; i++) {
+            JobBoard x = new JobBoard(0);
+            for (int job = 0; job < 15; job++) {
+                x.hold(0, 0);
+            }
+            CHECKS.due("crash(" + (14 + i) + ") with 15 records", x.crash(14 + i), lost[i]);
+            CHECKS.due("jobs", x.count(8), 15 - lost[i]);
+        }
+    }
+
+    /** "Below 0 counts as 0". */
+    private static void belowZeroCountsAsZero() {
+        int[] keeps = {0, -1, -16, Integer.MIN_VALUE, Integer.MIN_VALUE + 1};
+        for (int keep : keeps) {
+            JobBoard x = new JobBoard(0);
+            x.hold(0, 0);
+            x.flush();
+            x.hold(0, 0);
+            x.hold(0, 0);
+            CHECKS.due("crash(" + keep + ")", x.crash(keep), 2);
+            CHECKS.due("jobs after crash(" + keep + ")", x.count(8), 1);
+        }
+    }
+
+    /** "Jobs that those made are not there, and their numbers are given again", down to number 0. */
+    private static void backToAnEmptyBoard() {
+        JobBoard x = new JobBoard(0);
+        x.key(1);
+        Moves.submitMany(x, 0, 3);
+        x.take(0, 50);
+        x.take(1, 50);
+        x.ack(1);
+        CHECKS.due("all are lost", x.crash(0), 6);
+        CHECKS.due("no jobs", x.count(8), 0);
+        CHECKS.due("no job 0", x.state(0), JobBoard.REFUSED);
+        CHECKS.due("nobody holds it", x.holding(0), JobBoard.NONE);
+        CHECKS.line("nobody waits", x, 0);
+        CHECKS.due("nothing to take", x.take(0, 50), JobBoard.NONE);
+        for (int state = JobBoard.SCHEDULED; state <= JobBoard.GONE; state++) {
+            CHECKS.due("count(" + state + ")", x.count(state), 0);
+        }
+        x.key(1);
+        CHECKS.due("number 0 and key 1 again", x.submit(0, 0, 0, 0, 1), 0);
+    }
+
+    /** The jobs that a crash takes from a full board make room again. */
+    private static void crashOfAFullBoard() {
+        JobBoard x = new JobBoard(0);
+        Moves.submitMany(x, 0, 40);
+        CHECKS.due("records not flushed", x.count(9), 8);
+        CHECKS.due("one is lost", x.crash(7), 1);
+        CHECKS.due("no job 39", x.state(39), JobBoard.REFUSED);
+        CHECKS.due("number 39 again", x.hold(1, 1), 39);
+        CHECKS.due("full again", x.hold(1, 1), JobBoard.FULL);
+    }
+
+    /** "Jobs whose due time is not after now become READY": at now, and not at now + 1. */
+    private static void dueAtTheCrash() {
+        JobBoard x = new JobBoard(0);
+        x.submit(0, 0, 11, 0, 1);
+        x.submit(0, 0, 10, 0, 1);
+        x.submit(0, 0, 0, 1, 10);
+        x.submit(0, 0, 0, 1, 11);
+        x.take(0, 50);
+        x.take(1, 50);
+        x.fail(0);
+        x.fail(1);
+        x.flush();
+        CHECKS.due("two are due", x.tick(10), 2);
+        CHECKS.due("the tick is lost", x.crash(0), 1);
+        CHECKS.due("SCHEDULED until 11", x.state(0), JobBoard.SCHEDULED);
+        CHECKS.due("RETRYING until 11", x.state(3), JobBoard.RETRYING);
+        CHECKS.line("those due at 10", x, 0, 1, 2);
+        CHECKS.due("the others at 11", x.tick(1), 2);
+    }
+
+    /** "Answers how many RECORDS were lost.": none after a flush, after the 16th record and after a crash. */
+    private static void crashWithoutRecords() {
+        JobBoard x = new JobBoard(0);
+        CHECKS.due("an empty board", x.crash(0), 0);
+        x.hold(0, 0);
+        x.flush();
+        CHECKS.due("after a flush", x.crash(0), 0);
+        for (int i = 0; i < 16; i++) {
+            x.hold(0, 0);
+        }
+        CHECKS.due("after the 16th", x.crash(0), 0);
+        x.hold(0, 0);
+        CHECKS.due("one", x.crash(0), 1);
+        CHECKS.due("after a crash", x.crash(0), 0);
+        CHECKS.due("flush after a crash", x.flush(), 0);
+        CHECKS.due("jobs", x.count(8), 17);
+    }
+
+    /** "Buckets with a capacity are full", from 0 tokens to 1 and to 20; one without has none. */
+    private static void emptiedBucketsAreFull() {
+        JobBoard x = new JobBoard(1);
+        x.queue(0, 1, 1, 50);
+        x.queue(1, 1, 20, 50);
+        x.submit(0, 0, 0, 0, 1);
+        Moves.submitMany(x, 1, 20);
+        CHECKS.due("all are served", Moves.serveMany(x, 21), 21);
+        CHECKS.due("no token in queue 0", x.count(11), 0);
+        CHECKS.due("no token in queue 1", x.count(12), 0);
+        x.crash(99);
+        CHECKS.due("queue 0", x.count(11), 1);
+        CHECKS.due("queue 1", x.count(12), 20);
+        CHECKS.due("queue 2", x.count(13), 0);
+        x.tick(1000);
+        CHECKS.due("queue 2 after the longest tick", x.count(13), 0);
+    }
+
+    /** "Workers have none": all six that a board has. */
+    private static void sixReservedAtTheCrash() {
+        JobBoard x = new JobBoard(0);
+        for (int i = 0; i < 6; i++) {
+            x.submit(0, 5, 0, 0, 1);
+        }
+        for (int w = 5; w >= 0; w--) {
+            CHECKS.due("take", x.take(w, 1), 5 - w);
+        }
+        x.tick(1);
+        CHECKS.due("the tick is lost", x.crash(12), 1);
+        CHECKS.line("READY by number, without a failure", x, 0, 0, 1, 2, 3, 4, 5);
+        for (int w = 0; w < 6; w++) {
+            CHECKS.due("worker " + w + " has none", x.holding(w), JobBoard.NONE);
+            CHECKS.due("its failures", x.failures(w), 0);
+        }
     }
 }

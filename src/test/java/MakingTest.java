@@ -16,6 +16,13 @@ public final class MakingTest {
         fullBoard();
         holdMakesHeldJobs();
         heldJobHasLimitZero();
+        queueSetsThatQueueAlone();
+        queueLeavesTheOtherCredits();
+        noKeyAtFirst();
+        everyKeyIsItsOwn();
+        goneKeyIsFree();
+        holdHasNoKey();
+        lastSubmitOfAFullBoard();
         CHECKS.end();
     }
 
@@ -43,7 +50,7 @@ public final class MakingTest {
 
     private static void modeOneAloneIsStrict() {
         CHECKS.due("mode 1", firstTaken(1), 0);
-        int[] others = {0, 2, -1, 3, Integer.MIN_VALUE, Integer.MAX_VALUE};
+        int[] others = {0, 2, -1, 3, 257, 65_537, Integer.MIN_VALUE, Integer.MIN_VALUE + 1, Integer.MAX_VALUE};
         for (int mode : others) {
             CHECKS.due("mode " + mode, firstTaken(mode), 1);
         }
@@ -236,5 +243,105 @@ public final class MakingTest {
         x.take(0, 5);
         x.fail(0);
         CHECKS.due("one failure is more than the limit", x.state(0), JobBoard.DEAD);
+    }
+
+    /** "Its tokens the capacity", be they more or fewer than before; the other queues stay as they are. */
+    private static void queueSetsThatQueueAlone() {
+        JobBoard x = new JobBoard(0);
+        int[] capacities = {20, 3, 19, 0, 1};
+        x.queue(2, 1, 5, 10);
+        x.submit(2, 0, 0, 0, 1);
+        x.take(0, 50);
+        for (int capacity : capacities) {
+            x.queue(1, 1, capacity, 10);
+            CHECKS.due("tokens of queue 1", x.count(12), capacity);
+            CHECKS.due("tokens of queue 2", x.count(13), 4);
+        }
+        x.queue(2, 1, 5, 10);
+        CHECKS.due("the same capacity again fills the bucket", x.count(13), 5);
+    }
+
+    /** "Its CREDIT becomes 0": that of queue 0 alone, which stood at -1 beside 1 of queue 1. */
+    private static void queueLeavesTheOtherCredits() {
+        JobBoard x = new JobBoard(0);
+        Moves.submitMany(x, 0, 2);
+        Moves.submitMany(x, 1, 2);
+        CHECKS.due("queue 0 first", x.take(0, 50), 0);
+        x.queue(0, 2, 0, 1);
+        CHECKS.due("2 against 2: the least number", x.take(1, 50), 1);
+        JobBoard y = new JobBoard(0);
+        Moves.submitMany(y, 0, 2);
+        Moves.submitMany(y, 1, 2);
+        y.take(0, 50);
+        y.queue(0, 1, 0, 1);
+        CHECKS.due("1 against 2", y.take(1, 50), 2);
+    }
+
+    /** "None at first." and "none for k = -1": jobs without a key are no duplicates of one another. */
+    private static void noKeyAtFirst() {
+        JobBoard x = new JobBoard(0);
+        CHECKS.due("without a key", x.submit(0, 0, 0, 0, 1), 0);
+        CHECKS.due("without a key again", x.submit(0, 0, 0, 0, 1), 1);
+        x.key(0);
+        CHECKS.due("key 0 was not given yet", x.submit(0, 0, 0, 0, 1), 2);
+        x.key(3);
+        x.key(-1);
+        CHECKS.due("key(-1) took 3 back", x.submit(0, 0, 0, 0, 1), 3);
+        x.key(3);
+        CHECKS.due("so 3 is free", x.submit(0, 0, 0, 0, 1), 4);
+        x.key(3);
+        x.key(4);
+        CHECKS.due("the last key counts", x.submit(0, 0, 0, 0, 1), 5);
+    }
+
+    /** "k 0 .. 31": all 32 keys can be had at once, and each of them once. */
+    private static void everyKeyIsItsOwn() {
+        JobBoard x = new JobBoard(0);
+        for (int k = 0; k <= 31; k++) {
+            CHECKS.due("key(" + k + ")", x.key(k), JobBoard.OK);
+            CHECKS.due("its job", x.submit(0, 0, 0, 0, 1), k);
+        }
+        for (int k = 0; k <= 31; k++) {
+            x.key(k);
+            CHECKS.due("key " + k + " is taken", x.submit(0, 0, 0, 0, 1), JobBoard.DUPLICATE);
+        }
+        CHECKS.due("32 jobs", x.count(8), 32);
+    }
+
+    /** A GONE job is not LIVE, nor does its key come back. */
+    private static void goneKeyIsFree() {
+        JobBoard x = new JobBoard(0);
+        x.kill(submitWithKey(x, 1, 0));
+        Moves.holdAndKill(x, 8);
+        CHECKS.due("it is GONE", x.state(0), JobBoard.GONE);
+        CHECKS.due("its key is free", submitWithKey(x, 1, 0), 9);
+    }
+
+    /** "Without a key": the waiting key neither goes to the HELD job nor hinders it. */
+    private static void holdHasNoKey() {
+        JobBoard x = new JobBoard(0);
+        x.key(5);
+        x.submit(0, 0, 0, 0, 1);
+        x.key(5);
+        CHECKS.due("hold is no duplicate", x.hold(0, 0), 1);
+        CHECKS.due("the key still waits", x.submit(0, 0, 0, 0, 1), JobBoard.DUPLICATE);
+        x.kill(0);
+        CHECKS.due("the HELD job does not have it", x.submit(0, 0, 0, 0, 1), 2);
+    }
+
+    /** "40 jobs: FULL.": the 40th job takes its key, the 41st leaves it waiting. */
+    private static void lastSubmitOfAFullBoard() {
+        JobBoard x = new JobBoard(0);
+        Moves.submitMany(x, 0, 39);
+        x.key(6);
+        CHECKS.due("the 40th", x.submit(3, 9, 1000, 5, 50), 39);
+        CHECKS.due("its due time", x.due(39), 1000);
+        CHECKS.due("no key waits: FULL", x.submit(0, 0, 0, 0, 1), JobBoard.FULL);
+        x.key(6);
+        CHECKS.due("its key is taken", x.submit(0, 0, 0, 0, 1), JobBoard.DUPLICATE);
+        x.kill(39);
+        CHECKS.due("free, but FULL", x.submit(0, 0, 0, 0, 1), JobBoard.FULL);
+        CHECKS.due("revive needs no room", x.revive(39), JobBoard.OK);
+        CHECKS.due("and the key still waits", x.submit(0, 0, 0, 0, 1), JobBoard.DUPLICATE);
     }
 }

@@ -10,6 +10,9 @@ public final class ReadingTest {
         linesAndTheirEnds();
         countRanges();
         readingChangesNothing();
+        dueOfAHeldJob();
+        lineOfOneJob();
+        countsOfAFullBoard();
         CHECKS.end();
     }
 
@@ -131,5 +134,54 @@ public final class ReadingTest {
         x.submit(0, 0, 0, 0, 1);
         x.key(3);
         CHECKS.due("the key was still waiting", x.submit(0, 0, 0, 0, 1), JobBoard.DUPLICATE);
+    }
+
+    /** "The members of a HELD one": 0 is an answer, not NONE. */
+    private static void dueOfAHeldJob() {
+        JobBoard x = new JobBoard(0);
+        x.hold(0, 0);
+        CHECKS.due("no members", x.due(0), 0);
+        x.join(x.hold(0, 0), 0);
+        CHECKS.due("one", x.due(0), 1);
+        x.kill(0);
+        CHECKS.due("DEAD: NONE", x.due(0), JobBoard.NONE);
+    }
+
+    /** "From 0; NONE if there is no such": before, at and behind the only job of a line. */
+    private static void lineOfOneJob() {
+        for (int q = 0; q <= 3; q++) {
+            JobBoard x = new JobBoard(0);
+            CHECKS.due("line(" + q + ", 0) without a job", x.line(q, 0), JobBoard.NONE);
+            Moves.submit(x, q);
+            CHECKS.due("line(" + q + ", -1)", x.line(q, -1), JobBoard.NONE);
+            CHECKS.due("line(" + q + ", 0)", x.line(q, 0), 0);
+            CHECKS.due("line(" + q + ", 1)", x.line(q, 1), JobBoard.NONE);
+            CHECKS.due("the next queue's", x.line((q + 1) % 4, 0), JobBoard.NONE);
+            x.take(0, 50);
+            CHECKS.due("line(" + q + ", 0) after the take", x.line(q, 0), JobBoard.NONE);
+        }
+    }
+
+    /** Each of 0 .. 7 can count 40 but for RESERVED, of which there are six workers, and DEAD. */
+    private static void countsOfAFullBoard() {
+        JobBoard x = new JobBoard(0);
+        for (int i = 0; i < 40; i++) {
+            x.submit(0, 0, 1, 0, 1);
+        }
+        CHECKS.due("40 SCHEDULED", x.count(JobBoard.SCHEDULED), 40);
+        CHECKS.due("40 jobs", x.count(8), 40);
+        x.tick(1);
+        CHECKS.due("40 READY", x.count(JobBoard.READY), 40);
+        for (int w = 0; w <= 5; w++) {
+            x.take(w, 50);
+        }
+        CHECKS.due("6 RESERVED", x.count(JobBoard.RESERVED), 6);
+        for (int job = 6; job < 40; job++) {
+            x.kill(job);
+        }
+        CHECKS.due("8 DEAD", x.count(JobBoard.DEAD), 8);
+        CHECKS.due("26 GONE", x.count(JobBoard.GONE), 26);
+        CHECKS.due("none READY", x.count(JobBoard.READY), 0);
+        CHECKS.due("still 40 jobs", x.count(8), 40);
     }
 }

@@ -15,6 +15,11 @@ public final class TakingTest {
         delaysGrow();
         delayIsAtMost500();
         limitZeroIsDeadAtOnce();
+        shortestAndLongestLease();
+        greatestWeights();
+        sumOfOpenQueuesAlone();
+        lastTokenAndLastJob();
+        failOfEachWorker();
         CHECKS.end();
     }
 
@@ -227,5 +232,83 @@ public final class TakingTest {
         x.fail(1);
         CHECKS.due("limit 0", x.state(0), JobBoard.DEAD);
         CHECKS.due("limit 1", x.state(1), JobBoard.RETRYING);
+    }
+
+    /** "The deadline now + lease", 1 and 100: reserved until just before it. */
+    private static void shortestAndLongestLease() {
+        JobBoard x = new JobBoard(0);
+        Moves.submitMany(x, 0, 2);
+        x.tick(3);
+        x.take(0, 1);
+        x.take(5, 100);
+        CHECKS.due("deadline of lease 1", x.due(0), 4);
+        CHECKS.due("deadline of lease 100", x.due(1), 103);
+        CHECKS.due("the first fails", x.tick(1), 1);
+        CHECKS.due("nothing until 102", x.tick(98), 0);
+        CHECKS.due("still reserved", x.holding(5), 1);
+        CHECKS.due("the second fails at 103", x.tick(1), 1);
+        CHECKS.due("reserved no more", x.holding(5), JobBoard.NONE);
+    }
+
+    /** All four weights at 8: "its CREDIT falls by the sum of the weights of all OPEN queues", by 32. */
+    private static void greatestWeights() {
+        JobBoard x = new JobBoard(0);
+        for (int q = 0; q <= 3; q++) {
+            x.queue(q, 8, 0, 1);
+            Moves.submitMany(x, q, 3);
+        }
+        int[] order = {0, 3, 6, 9, 1, 4, 7, 10, 2, 5, 8, 11};
+        for (int job : order) {
+            CHECKS.due("in turn", Moves.serve(x), job);
+        }
+        CHECKS.due("no more", Moves.serve(x), JobBoard.NONE);
+    }
+
+    /** The fall counts the OPEN queues alone: neither a paused one, nor an empty one, nor one without tokens. */
+    private static void sumOfOpenQueuesAlone() {
+        JobBoard x = new JobBoard(0);
+        x.queue(0, 8, 1, 50);
+        x.queue(1, 8, 0, 1);
+        Moves.submitMany(x, 0, 2);
+        CHECKS.due("queue 0 spends its token", Moves.serve(x), 0);
+        x.queue(2, 2, 0, 1);
+        x.queue(3, 3, 0, 1);
+        Moves.submitMany(x, 2, 3);
+        Moves.submitMany(x, 3, 3);
+        // Queues 2 and 3: 2 3 -> 2 -2, 4 1 -> -1 1, 1 4 -> 1 -1, 3 2 -> -2 2, 0 5 -> 0 0.
+        int[] order = {5, 2, 6, 3, 7};
+        for (int job : order) {
+            CHECKS.due("the fall is 5", Moves.serve(x), job);
+        }
+    }
+
+    /** "A job is READY in it, and its capacity is 0 or it has a token": the last of each is enough. */
+    private static void lastTokenAndLastJob() {
+        for (int mode = 0; mode <= 1; mode++) {
+            JobBoard x = new JobBoard(mode);
+            x.queue(1, 1, 2, 50);
+            Moves.submitMany(x, 1, 3);
+            Moves.submit(x, 2);
+            CHECKS.due("one token is spent", x.take(0, 50), 0);
+            x.queue(2, 0, 0, 1);
+            CHECKS.due("the last token", x.take(1, 50), 1);
+            CHECKS.due("no token", x.take(2, 50), JobBoard.NONE);
+            x.queue(2, 1, 0, 1);
+            CHECKS.due("the last job of queue 2", x.take(2, 50), 3);
+            CHECKS.due("no job in queue 2", x.take(3, 50), JobBoard.NONE);
+        }
+    }
+
+    /** "Worker w's job FAILS.": that of no other worker. */
+    private static void failOfEachWorker() {
+        JobBoard x = new JobBoard(0);
+        Moves.submitMany(x, 0, 6);
+        for (int w = 0; w <= 5; w++) {
+            x.take(w, 50);
+        }
+        for (int w = 5; w >= 0; w--) {
+            CHECKS.due("fail(" + w + ")", x.fail(w), w);
+            CHECKS.due("RESERVED still", x.count(JobBoard.RESERVED), w);
+        }
     }
 }

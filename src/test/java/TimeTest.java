@@ -12,6 +12,12 @@ public final class TimeTest {
         delayCountsFromTheEndOfTheTick();
         recordOfTicksThatChange();
         tokensComeAtTheirMoments();
+        longestDelayAndTick();
+        tickOfAnEmptyBoard();
+        allFortyAtOnce();
+        equalDeadlinesLeastJobFirst();
+        earlierDeadlineFirst();
+        ackBeforeTheDeadline();
         CHECKS.end();
     }
 
@@ -145,5 +151,83 @@ public final class TimeTest {
         CHECKS.due("time 31", x.count(13), 18);
         x.tick(1000);
         CHECKS.due("not above the capacity", x.count(13), 20);
+    }
+
+    /** "Whose due time is not after now": at 1000 of 1000, and not at 999. */
+    private static void longestDelayAndTick() {
+        JobBoard x = new JobBoard(0);
+        x.submit(0, 0, 1000, 0, 1);
+        CHECKS.due("tick(999)", x.tick(999), 0);
+        CHECKS.due("SCHEDULED", x.state(0), JobBoard.SCHEDULED);
+        CHECKS.due("tick(1)", x.tick(1), 1);
+        JobBoard y = new JobBoard(0);
+        y.submit(0, 0, 1000, 0, 1);
+        CHECKS.due("tick(1000)", y.tick(1000), 1);
+        CHECKS.due("READY", y.state(0), JobBoard.READY);
+    }
+
+    private static void tickOfAnEmptyBoard() {
+        JobBoard x = new JobBoard(0);
+        CHECKS.due("no jobs", x.tick(1000), 0);
+        CHECKS.due("no record", x.count(9), 0);
+        CHECKS.due("time", x.count(10), 1000);
+    }
+
+    /** "Answers how many jobs.": all 40 of a full board, the later due times belonging to the lesser jobs. */
+    private static void allFortyAtOnce() {
+        JobBoard x = new JobBoard(0);
+        for (int i = 0; i < 40; i++) {
+            x.submit(1, 0, 40 - i, 0, 1);
+        }
+        CHECKS.due("all become READY", x.tick(40), 40);
+        CHECKS.due("one record", x.count(9), (40 + 1) % 16);
+        for (int k = 0; k < 40; k++) {
+            CHECKS.due("line(1, " + k + ")", x.line(1, k), 39 - k);
+        }
+        CHECKS.due("none the next time", x.tick(1000), 0);
+    }
+
+    /** "Of equal ones the least job first.": taken against their numbers, but dying by them. */
+    private static void equalDeadlinesLeastJobFirst() {
+        JobBoard x = new JobBoard(0);
+        for (int i = 0; i < 3; i++) {
+            x.submit(0, i, 0, 0, 1);
+        }
+        for (int w = 0; w < 3; w++) {
+            CHECKS.due("take", x.take(w, 10), 2 - w);
+        }
+        CHECKS.due("all three die", x.tick(10), 3);
+        Moves.holdAndKill(x, 5);
+        for (int job = 0; job < 3; job++) {
+            CHECKS.due("job " + job + " is DEAD", x.state(job), JobBoard.DEAD);
+            Moves.holdAndKill(x, 1);
+            CHECKS.due("job " + job + " is the next to be GONE", x.state(job), JobBoard.GONE);
+        }
+    }
+
+    /** "In the order of these due times and deadlines": the earlier deadline first, though its job is greater. */
+    private static void earlierDeadlineFirst() {
+        JobBoard x = new JobBoard(0);
+        Moves.submitMany(x, 0, 2);
+        x.take(0, 10);
+        x.take(1, 9);
+        CHECKS.due("both die", x.tick(10), 2);
+        Moves.holdAndKill(x, 7);
+        CHECKS.due("job 1 was the first", x.state(1), JobBoard.GONE);
+        CHECKS.due("job 0 was not", x.state(0), JobBoard.DEAD);
+    }
+
+    /** A job that is acked or failed just before its deadline is no concern of the tick. */
+    private static void ackBeforeTheDeadline() {
+        JobBoard x = new JobBoard(0);
+        x.submit(0, 0, 0, 1, 50);
+        x.submit(0, 0, 0, 1, 50);
+        x.take(0, 10);
+        x.take(1, 10);
+        x.tick(9);
+        CHECKS.due("ack", x.ack(0), 0);
+        CHECKS.due("fail", x.fail(1), 1);
+        CHECKS.due("the deadlines concern nobody", x.tick(1), 0);
+        CHECKS.due("due time after 9", x.due(1), 59);
     }
 }
