@@ -269,7 +269,8 @@ public final class JobBoard {
         if (!isQueue(q)) {
             return REFUSED;
         }
-        return k < 0 ? NONE : numberOrNone(roster.inLine(q, k));
+        // No line is longer than there can be jobs, so the search has an end for any k.
+        return within(k, 0, MAX_JOBS - 1) ? numberOrNone(roster.inLine(q, k)) : NONE;
     }
 
     public int count(int what) {

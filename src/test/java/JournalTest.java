@@ -219,7 +219,7 @@ public final class JournalTest {
         x.fail(0);
         x.kill(3);
         x.revive(4);
-        CHECKS.due("the callback is still waited for by nobody", x.state(0), JobBoard.HELD);
+        CHECKS.due("one of its two members failed: HELD", x.state(0), JobBoard.HELD);
         CHECKS.due("eight are lost", x.crash(0), 8);
         CHECKS.due("one member", x.due(0), 1);
         CHECKS.line("the line is as it was", x, 0, 1, 2);

@@ -16,7 +16,7 @@ public final class ReadingTest {
         CHECKS.end();
     }
 
-    /** Job i of 0 .. 7 is in state i; jobs 8 to 15 are DEAD too, so that job 7 is GONE. */
+    /** Job i of 0 .. 7 is in state i; jobs 8 to 14 are DEAD too, so that job 7 is GONE. */
     private static JobBoard boardOfAllStates() {
         JobBoard x = new JobBoard(1);
         x.submit(3, 0, 77, 0, 1);

@@ -16,7 +16,7 @@ public final class RecordTermsTest {
         CHECKS.end();
     }
 
-    /** A flushed board on which each kind of call can put a record; 15 records of holds come first. */
+    /** A flushed board on which each kind of call can put a record; then so many holds. */
     private static JobBoard boardBeforeARecord(int records) {
         JobBoard x = new JobBoard(1);
         Moves.submit(x, 0);
